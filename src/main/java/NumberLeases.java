@@ -572,7 +572,7 @@ public final class NumberLeases {
                 int holder = wishers[n * WISHES];
                 int term = wishTerms[n * WISHES];
                 dropWish(n, 0);
-                if (hasRoom(holder, 1)) {
+                if (numbersOf(holder) < settings[LIMIT]) {
                     lease(holder, n, term);
                 } else {
                     lost[holder]++;
