@@ -1043,8 +1043,9 @@ public final class NumberLeases {
         }
     }
 
-    /** The bits of floats and doubles that are 0 or positive and in the normal range; the library has none to use. */
+    /** The bits of floats and doubles; the library has none to use. */
     private static final class Bits {
+        /** For floats from 0 to 1 in the normal range. */
         static int ofFloat(float value) {
             if (!(value > 0.0f)) {
                 return 0;
@@ -1055,13 +1056,10 @@ public final class NumberLeases {
                 rest = rest * 2.0f;
                 exponent--;
             }
-            for (int k = 0; k < 127 && rest >= 2.0f; k++) {
-                rest = rest / 2.0f;
-                exponent++;
-            }
             return (exponent << 23) + (int) ((rest - 1.0f) * 8388608.0f);
         }
 
+        /** For doubles from 0 in the normal range. */
         static long ofDouble(double value) {
             if (!(value > 0.0)) {
                 return 0L;

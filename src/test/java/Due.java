@@ -20,6 +20,15 @@ final class Due {
         }
     }
 
+    static void wrong(String text) {
+        wrong++;
+        System.out.println(text);
+    }
+
+    static int looked() {
+        return looked;
+    }
+
     /** The call is due to throw just this, and to leave the object's digest as it was. */
     static void refused(NumberLeases x, String call, Class<? extends RuntimeException> want, LongSupplier work) {
         long before = x.digest();
