@@ -43,15 +43,15 @@ final class AheadSentences {
         Story.after("take 5 496").is(5, "whoAfter 0 500").refuses(Due.ARGUMENT, "whoAfter 0 -1", "whoAfter 0 501");
 
         Story.on("20", "Returns who has it behind so much time;");
-        some.is(6, "whoAfter 0 0").is(6, "whoAfter 0 2").is(3, "whoAfter 0 7").then("pass 7").is(3, "whoAfter 0 0").is(4,
-            "whoAfter 0 10");
-        some.then("takeSpan 3 1 99, set 1 1").is(4, "whoAfter 0 7").then("set 0 0").is(4, "whoAfter 0 11").is(-1,
-            "whoAfter 0 12");
+        some.is(6, "whoAfter 0 0").is(6, "whoAfter 0 2").is(3, "whoAfter 0 7").then("pass 7").is(3, "whoAfter 0 0")
+            .is(4, "whoAfter 0 10");
+        some.then("takeSpan 3 1 99, set 1 1").is(4, "whoAfter 0 7").then("set 0 0").is(4, "whoAfter 0 11")
+            .is(-1, "whoAfter 0 12");
 
         Story.on("20", "NONE if it is free then.");
         Story.fresh().is(-1, "whoAfter 0 0").is(-1, "whoAfter 31 500");
-        some.is(-1, "whoAfter 0 27").is(-1, "whoAfter 0 500").is(-1, "whoAfter 2 0").is(6, "whoAfter 1 94").is(-1,
-            "whoAfter 1 95");
+        some.is(-1, "whoAfter 0 27").is(-1, "whoAfter 0 500").is(-1, "whoAfter 2 0").is(6, "whoAfter 1 94")
+            .is(-1, "whoAfter 1 95");
 
         Story.on("20", "Throws `IndexOutOfBoundsException` if there is no such number");
         late.refusesEach(Due.INDEX, "whoAfter # 0", -1, 32, 63, 64, Story.LEAST_INT, Story.MOST_INT);
@@ -65,8 +65,8 @@ final class AheadSentences {
     private static void freeIn() {
         Story four = Story.after("set 3 4, take 0 5, take 1 10, takeSpan 2 2 495, wish 3 0 1");
         Story.on("21", "Tells when there would be so many free numbers.");
-        four.is(15, "freeIn 1").then("pass 14").is(0, "count 1").is(1, "freeIn 1").then("pass 1").is(1, "count 1").is(0,
-            "freeIn 1");
+        four.is(15, "freeIn 1").then("pass 14").is(0, "count 1").is(1, "freeIn 1").then("pass 1").is(1, "count 1")
+            .is(0, "freeIn 1");
 
         Story.on("21", "- `many`: 1 to 64");
         Story all = Story.after("set 3 64").is(0, "freeIn 1").is(0, "freeIn 64");
@@ -101,8 +101,8 @@ final class AheadSentences {
 
         Story.on("22", "- `holder`: 0 to 7");
         some.is(27, "wishedIn 0 0").is(27, "wishedIn 7 0").refuses(Due.INDEX, "wishedIn -1 0", "wishedIn 8 0");
-        Story.after("take 0 9, take 7 9").is(0, "wishedIn 0 0").is(14, "wishedIn 7 0").is(14, "wishedIn 0 1").is(0,
-            "wishedIn 7 1");
+        Story.after("take 0 9, take 7 9").is(0, "wishedIn 0 0").is(14, "wishedIn 7 0").is(14, "wishedIn 0 1")
+            .is(0, "wishedIn 7 1");
 
         Story.on("22", "- `number`: a number of the pool");
         for (int size : new int[] {4, 32, 64}) {
@@ -129,8 +129,8 @@ final class AheadSentences {
         Story has = Story.after("set 1 1, take 0 9, wish 1 0 1, wish 2 0 1, wish 3 0 1").is(0, "wishedIn 0 0");
         has.then("pass 9").is(0, "wishedIn 0 0").then("pass 4").is(0, "wishedIn 0 0");
         Story.fresh().is(0, "wishedIn 3 0").is(0, "wishedIn 3 31");
-        Story.after("set 1 3, takeSpan 3 2 9").is(0, "wishedIn 3 9").then("take 3 9").is(-1, "wishedIn 3 9").is(0,
-            "wishedIn 2 9");
+        Story.after("set 1 3, takeSpan 3 2 9").is(0, "wishedIn 3 9").then("take 3 9").is(-1, "wishedIn 3 9")
+            .is(0, "wishedIn 2 9");
         // Another wish of the holder can take the room, or a lease that ends can make it.
         Story room = Story.after("set 1 1, take 0 10, take 1 9, take 2 20");
         room.is(15, "wishedIn 1 0").is(-1, "wishedIn 2 0").is(25, "wishedIn 1 2").is(25, "wishedIn 0 2");
@@ -138,8 +138,8 @@ final class AheadSentences {
         Story noGrace = Story.after("set 0 0, set 1 1, take 0 10, take 1 8").is(10, "wishedIn 3 0");
         noGrace.then("wish 3 1 1").is(10, "wishedIn 3 0");
         noGrace.then("wish 3 1 2").is(-1, "wishedIn 3 0");
-        Story.after("set 0 0, take 0 3, wish 1 0 2").is(5, "wishedIn 2 0").does(2, "wish 2 0 1").is(2, "whoAfter 0 5").is(-1,
-            "whoAfter 0 6");
+        Story.after("set 0 0, take 0 3, wish 1 0 2").is(5, "wishedIn 2 0").does(2, "wish 2 0 1").is(2, "whoAfter 0 5")
+            .is(-1, "whoAfter 0 6");
     }
 
     private static void wishedInNever() {
@@ -149,8 +149,8 @@ final class AheadSentences {
         Story three = Story.after("take 0 9, wish 1 0 9, wish 2 0 9").is(42, "wishedIn 3 0").then("wish 3 0 9");
         three.is(-1, "wishedIn 4 0").is(-1, "wishedIn 7 0").is(0, "wishedIn 0 0");
         three.is(-1, "wishedIn 1 0").is(-1, "wishedIn 2 0").is(-1, "wishedIn 3 0");
-        Story.after("take 0 9, wish 1 0 9").is(-1, "wishedIn 1 0").is(28, "wishedIn 2 0").then("unwish 1 0").is(14,
-            "wishedIn 1 0");
+        Story.after("take 0 9, wish 1 0 9").is(-1, "wishedIn 1 0").is(28, "wishedIn 2 0").then("unwish 1 0")
+            .is(14, "wishedIn 1 0");
         Story.after("set 1 2, takeSpan 1 2 9").is(-1, "wishedIn 1 9").is(0, "wishedIn 1 1").is(0, "wishedIn 2 9");
         Story.after("takeSpan 1 3 9, set 1 2").is(-1, "wishedIn 1 9").then("set 1 4").is(0, "wishedIn 1 9");
         // The wish would be lost: the holder has no room when the number is looked at.
@@ -160,8 +160,8 @@ final class AheadSentences {
     private static void fullness() {
         Story.on("23", "Returns how full the pool is.");
         Story some = Story.fresh().is(0, "fullness").then("take 0 9").is(Float.floatToIntBits(1.0f / 32.0f), "fullness");
-        some.then("takeSpan 1 15 9").is(Float.floatToIntBits(0.5f), "fullness").then("giveBack 0 0 0").is(
-            Float.floatToIntBits(15.0f / 32.0f), "fullness");
+        some.then("takeSpan 1 15 9").is(Float.floatToIntBits(0.5f), "fullness").then("giveBack 0 0 0")
+            .is(Float.floatToIntBits(15.0f / 32.0f), "fullness");
         some.then("pass 9").is(Float.floatToIntBits(1.0f / 32.0f), "fullness").then("pass 5").is(0, "fullness");
 
         Story.on("23", "Returns the bits (as Float.floatToIntBits) of a float: the numbers that are not free, as a float, "
@@ -203,20 +203,20 @@ final class AheadSentences {
     private static void meanHeld() {
         Story.on("25", "Returns how long numbers are held.");
         Story.after("take 0 3, pass 9").is(Double.doubleToLongBits(3.0), "meanHeld");
-        Story.after("take 0 3, pass 2").is(Double.doubleToLongBits(2.0), "meanHeld").then("giveBack 0 0 0, pass 9").is(
-            Double.doubleToLongBits(2.0), "meanHeld");
+        Story.after("take 0 3, pass 2").is(Double.doubleToLongBits(2.0), "meanHeld").then("giveBack 0 0 0, pass 9")
+            .is(Double.doubleToLongBits(2.0), "meanHeld");
 
         Story.on("25", "Returns the sum of what holder() tells for 7 over all holders, as a double, divided by count(5), as a double;");
         Story three = Story.after("take 0 3, take 7 7, take 4 9, pass 20").is(Double.doubleToLongBits(19.0 / 3.0), "meanHeld");
-        three.then("takeSpan 5 4 9").is(Double.doubleToLongBits(19.0 / 7.0), "meanHeld").then("pass 1").is(
-            Double.doubleToLongBits(23.0 / 7.0), "meanHeld");
+        three.then("takeSpan 5 4 9").is(Double.doubleToLongBits(19.0 / 7.0), "meanHeld").then("pass 1")
+            .is(Double.doubleToLongBits(23.0 / 7.0), "meanHeld");
         three.then("undo").is(Double.doubleToLongBits(0.0), "meanHeld");
         Story.after("take 0 9, wish 1 0 3, pass 99").is(Double.doubleToLongBits(12.0 / 2.0), "meanHeld");
         Story.after("take 0 9, renew 0 0 10, pass 99").is(Double.doubleToLongBits(10.0), "meanHeld");
         for (int many = 1; many <= 16; many++) {
             for (int term = 1; term <= 12; term++) {
-                Story.after("takeSpan 3 " + many + " 1, take 2 " + (7 * term) + ", pass 99").is(
-                    Double.doubleToLongBits((double) (many + 7 * term) / (double) (many + 1)), "meanHeld");
+                Story.after("takeSpan 3 " + many + " 1, take 2 " + (7 * term) + ", pass 99")
+                    .is(Double.doubleToLongBits((double) (many + 7 * term) / (double) (many + 1)), "meanHeld");
             }
         }
 

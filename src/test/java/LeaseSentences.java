@@ -187,8 +187,8 @@ final class LeaseSentences {
         Story.after("wish 1 0 9").refuses(Due.ARGUMENT, "wish 1 5 0", "wish 1 5 1000", "wish 2 0 0", "wish 2 0 1000");
 
         Story.on("4", "Returns 0 if it is given at once, otherwise how many wishes wait for it then.");
-        Story.fresh().does(0, "wish 1 0 9").does(1, "wish 2 0 9").does(2, "wish 3 0 9").does(3, "wish 4 0 9").does(0,
-            "wish 4 1 9");
+        Story.fresh().does(0, "wish 1 0 9").does(1, "wish 2 0 9").does(2, "wish 3 0 9").does(3, "wish 4 0 9")
+            .does(0, "wish 4 1 9");
         Story.after("take 0 1, pass 1").is(1, "wish 1 0 9").then("pass 5").is(0, "wish 1 0 9");
         Story.after("wish 1 0 9, wish 2 0 9, wish 3 0 9, unwish 2 0").is(2, "wish 4 0 9");
     }
@@ -226,8 +226,8 @@ final class LeaseSentences {
         Story three = Story.after("take 0 9, wish 3 0 13, wish 1 0 11, wish 2 0 12");
         Story.on("5", "Takes a wish that waits back.");
         three.then("unwish 3 0").is(2, "number 0 5").is(1, "number 0 6").is(11, "number 0 7").is(0, "holder 3 2");
-        three.then("unwish 1 0").is(3, "number 0 6").is(0, "holder 1 2").then("giveBack 0 0 0, giveBack 3 0 0").is(2,
-            "number 0 1")
+        three.then("unwish 1 0").is(3, "number 0 6").is(0, "holder 1 2").then("giveBack 0 0 0, giveBack 3 0 0")
+            .is(2, "number 0 1")
             .is(12, "number 0 3");
         three.then("unwish 2 0").is(3, "number 0 6").is(13, "number 0 7").is(0, "holder 2 2")
             .then("giveBack 0 0 0, giveBack 3 0 0")
@@ -267,8 +267,8 @@ final class LeaseSentences {
         three.refuses(Due.STATE, "unwish 0 0", "unwish 4 0", "unwish 1 1");
         three.then("unwish 1 0").refuses(Due.STATE, "unwish 1 0");
         three.then("giveBack 0 0 0").refuses(Due.STATE, "unwish 3 0").is(1, "unwish 1 0");
-        three.then("takeSpan 1 1 9, set 1 1, giveBack 0 0 0, giveBack 3 0 0").is(2, "number 0 1").refuses(Due.STATE,
-            "unwish 1 0");
+        three.then("takeSpan 1 1 9, set 1 1, giveBack 0 0 0, giveBack 3 0 0").is(2, "number 0 1")
+            .refuses(Due.STATE, "unwish 1 0");
         Story.after("wish 1 0 9").refuses(Due.STATE, "unwish 1 0", "unwish 1 5");
     }
 
@@ -276,8 +276,8 @@ final class LeaseSentences {
         Story.on("6", "Renews a lease, held or in grace: it is held, its end is the time plus the term, "
             + "its last moment as for a new lease;");
         Story held = Story.after("take 3 9, pass 8, set 0 7, renew 3 0 4");
-        held.is(HELD, "number 0 0").is(12, "number 0 3").is(19, "number 0 4").is(3, "number 0 1").is(1, "count 6").is(0,
-            "count 7");
+        held.is(HELD, "number 0 0").is(12, "number 0 3").is(19, "number 0 4").is(3, "number 0 1").is(1, "count 6")
+            .is(0, "count 7");
         Story first = Story.after("take 3 9, pass 9, set 0 0, renew 3 0 4");
         first.is(HELD, "number 0 0").is(13, "number 0 3").is(13, "number 0 4").is(1, "count 6").is(1, "count 7");
         Story last = Story.after("take 3 9, pass 13, renew 3 0 999");
@@ -328,8 +328,8 @@ final class LeaseSentences {
         noTerm(some.then("pass 8"), "renew 0 0 #");
 
         Story.on("6", "Throws `IllegalStateException` if the holder does not have it, or a wish waits for it and setting 2 is 1");
-        some.refuses(Due.STATE, "renew 1 0 4", "renew 0 1 4").then("pass 8").refuses(Due.STATE, "renew 1 0 4").is(9,
-            "renew 0 0 4");
+        some.refuses(Due.STATE, "renew 1 0 4", "renew 0 1 4").then("pass 8").refuses(Due.STATE, "renew 1 0 4")
+            .is(9, "renew 0 0 4");
         some.then("pass 11").is(IN_GRACE, "number 0 0").is(9, "renew 0 0 4").then("pass 1").refuses(Due.STATE, "renew 0 0 4");
         some.then("giveBack 0 0 0").refuses(Due.STATE, "renew 0 0 4");
         some.then("wish 1 0 4").refuses(Due.STATE, "renew 1 0 4").is(9, "renew 0 0 4");
@@ -349,8 +349,8 @@ final class LeaseSentences {
             .is(FREE, "number 5 0").is(IN_GRACE, "number 6 0").is(3, "count 8").is(1, "holder 0 0").is(1, "holder 0 1");
         // The first number that is given back takes the room of the wish for the second one.
         Story full = Story.after("takeSpan 0 3 50, wish 1 0 10, wish 1 1 20, wish 2 1 30, set 1 1, pass 4, giveBack 0 0 2");
-        full.is(1, "number 0 1").is(2, "number 1 1").is(34, "number 1 3").is(FREE, "number 2 0").is(1, "holder 1 6").is(3,
-            "count 8");
+        full.is(1, "number 0 1").is(2, "number 1 1").is(34, "number 1 3").is(FREE, "number 2 0").is(1, "holder 1 6")
+            .is(3, "count 8");
         // Nothing that was given on in the call is given back in it.
         Story.after("takeSpan 0 2 50, wish 1 0 9, giveBack 0 0 1").is(1, "number 0 1").is(2, "count 8").is(1, "holder 1 0");
 
@@ -414,8 +414,8 @@ final class LeaseSentences {
         some.is(0, "pass 8").is(3, "pass 9").is(3, "pass 10").is(5, "pass 11").is(5, "pass 99");
         some.then("pass 9").is(0, "pass 1").is(2, "pass 2");
         Story given = some.then("wish 3 0 9, wish 3 1 9, wish 4 1 9");
-        given.is(0, "pass 8").is(3, "pass 9").is(5, "pass 11").is(5, "pass 22").is(7, "pass 23").is(7, "pass 36").is(8,
-            "pass 37");
+        given.is(0, "pass 8").is(3, "pass 9").is(5, "pass 11").is(5, "pass 22").is(7, "pass 23").is(7, "pass 36")
+            .is(8, "pass 37");
         Story.after("take 0 4, wish 3 0 2, wish 4 0 2").is(1, "pass 9").is(1, "pass 15").is(2, "pass 16").is(3, "pass 23");
         Story.after("take 0 4, take 3 99, wish 3 0 2, set 1 1").is(1, "pass 9").then("pass 9").is(FREE, "number 0 0");
 

@@ -64,24 +64,24 @@ final class LookSentences {
         }
 
         Story.on("15", "1: who has it;");
-        Story.after("wish 0 5 1, wish 7 6 9, wish 3 6 1").is(0, "number 5 1").is(7, "number 6 1").then("pass 1").is(0,
-            "number 5 1");
+        Story.after("wish 0 5 1, wish 7 6 9, wish 3 6 1").is(0, "number 5 1").is(7, "number 6 1").then("pass 1")
+            .is(0, "number 5 1");
 
         Story.on("15", "2: the begin of its lease;");
         Story.after("take 0 9").is(0, "number 0 2").then("pass 7, take 0 9").is(0, "number 0 2").is(7, "number 1 2")
             .then("renew 0 0 9").is(0, "number 0 2").then("pass 12").is(7, "number 1 2");
 
         Story.on("15", "3: the end;");
-        Story.after("pass 7, take 0 9").is(16, "number 0 3").then("pass 9").is(16, "number 0 3").then("renew 0 0 2").is(18,
-            "number 0 3");
+        Story.after("pass 7, take 0 9").is(16, "number 0 3").then("pass 9").is(16, "number 0 3").then("renew 0 0 2")
+            .is(18, "number 0 3");
 
         Story.on("15", "4: the last moment;");
         Story.after("pass 7, take 0 9").is(21, "number 0 4").then("set 0 9, pass 9").is(21, "number 0 4").then("renew 0 0 2")
             .is(27, "number 0 4");
 
         Story.on("15", "5: wishes that wait for it;");
-        Story.after("takeSpan 0 2 9").is(0, "number 0 5").then("wish 1 0 1").is(1, "number 0 5").then("wish 2 0 1").is(2,
-            "number 0 5")
+        Story.after("takeSpan 0 2 9").is(0, "number 0 5").then("wish 1 0 1").is(1, "number 0 5").then("wish 2 0 1")
+            .is(2, "number 0 5")
             .then("wish 3 0 1").is(3, "number 0 5").is(0, "number 1 5").then("unwish 2 0").is(2, "number 0 5")
             .then("giveBack 0 0 0").is(1, "number 0 5").then("pass 99").is(0, "number 0 5");
 
@@ -163,17 +163,17 @@ final class LookSentences {
         Story.on("16", "- `what`: 0: numbers that are held;");
         Story some = Story.after("takeSpan 2 3 4, take 3 9, wish 2 31 6");
         some.is(4, "holder 2 0").is(1, "holder 3 0").then("pass 3").is(4, "holder 2 0").then("pass 1").is(1, "holder 2 0")
-            .then("pass 2").is(0, "holder 2 0").then("renew 2 1 4").is(1, "holder 2 0").then("giveBack 2 1 1").is(0,
-            "holder 2 0");
+            .then("pass 2").is(0, "holder 2 0").then("renew 2 1 4").is(1, "holder 2 0").then("giveBack 2 1 1")
+            .is(0, "holder 2 0");
 
         Story.on("16", "1: numbers in grace;");
-        some.then("pass 3").is(0, "holder 2 1").then("pass 1").is(3, "holder 2 1").is(0, "holder 3 1").then("pass 2").is(4,
-            "holder 2 1")
+        some.then("pass 3").is(0, "holder 2 1").then("pass 1").is(3, "holder 2 1").is(0, "holder 3 1").then("pass 2")
+            .is(4, "holder 2 1")
             .then("pass 2").is(4, "holder 2 1").then("pass 1").is(1, "holder 2 1").then("pass 2").is(0, "holder 2 1");
 
         Story.on("16", "2: wishes that wait;");
-        Story waiting = Story.after("takeSpan 0 3 9, wish 1 0 5, wish 2 0 5, wish 1 1 5, wish 1 2 5, wish 1 9 5").is(0,
-            "holder 0 2");
+        Story waiting = Story.after("takeSpan 0 3 9, wish 1 0 5, wish 2 0 5, wish 1 1 5, wish 1 2 5, wish 1 9 5")
+            .is(0, "holder 0 2");
         waiting.is(3, "holder 1 2").is(1, "holder 2 2").then("unwish 1 1").is(2, "holder 1 2").then("giveBack 0 0 0")
             .is(1, "holder 1 2").is(1, "holder 2 2").then("set 1 1, giveBack 0 2 2").is(0, "holder 1 2");
 
@@ -183,8 +183,8 @@ final class LookSentences {
             .is(-1, "holder 2 3").then("wish 2 31 1").is(31, "holder 2 3").then("wish 2 0 9").is(31, "holder 2 3");
 
         Story.on("16", "4: the least end, of those that are held, NONE without one;");
-        Story ends = Story.after("take 2 9, take 2 4, take 2 12, take 1 1").is(-1, "holder 0 4").is(1, "holder 1 4").is(4,
-            "holder 2 4");
+        Story ends = Story.after("take 2 9, take 2 4, take 2 12, take 1 1").is(-1, "holder 0 4").is(1, "holder 1 4")
+            .is(4, "holder 2 4");
         ends.then("pass 4").is(9, "holder 2 4").is(-1, "holder 1 4").then("pass 5").is(12, "holder 2 4").then("pass 3")
             .is(-1, "holder 2 4");
         ends.then("pass 4, renew 2 1 2").is(6, "holder 2 4").then("giveBack 2 1 1").is(9, "holder 2 4");
@@ -199,21 +199,21 @@ final class LookSentences {
 
         Story.on("16", "6: wishes that were lost so far;");
         Story lost = Story.after("takeSpan 0 3 9, wish 1 0 5, wish 1 1 5, wish 1 2 5, wish 2 1 5, set 1 1, giveBack 0 0 0");
-        lost.is(0, "holder 1 6").then("giveBack 0 1 1").is(1, "holder 1 6").is(0, "holder 2 6").then("pass 99").is(1,
-            "holder 1 6");
+        lost.is(0, "holder 1 6").then("giveBack 0 1 1").is(1, "holder 1 6").is(0, "holder 2 6").then("pass 99")
+            .is(1, "holder 1 6");
         lost.then("giveBack 0 1 2").is(2, "holder 1 6").is(0, "holder 0 6");
         lost.then("unwish 1 1").is(0, "holder 1 6").then("unwish 1 2").is(0, "holder 1 6");
 
         Story.on("16", "7: units of time that passed, each counted for each number that the holder held in it so far (at its beginning)");
-        Story held = Story.after("takeSpan 1 3 4, take 2 6").is(0, "holder 1 7").then("pass 1").is(3, "holder 1 7").is(1,
-            "holder 2 7");
+        Story held = Story.after("takeSpan 1 3 4, take 2 6").is(0, "holder 1 7").then("pass 1").is(3, "holder 1 7")
+            .is(1, "holder 2 7");
         held.then("pass 2").is(9, "holder 1 7").then("pass 1").is(12, "holder 1 7").then("pass 1").is(12, "holder 1 7")
             .is(5, "holder 2 7").then("pass 99").is(12, "holder 1 7").is(6, "holder 2 7");
         held.then("giveBack 1 0 1").is(3, "holder 1 7").then("pass 1").is(4, "holder 1 7").then("pass 99").is(6, "holder 1 7");
         held.then("pass 5, renew 1 0 2").is(12, "holder 1 7").then("pass 9").is(14, "holder 1 7");
         // The lease that is given on at the end of a unit is held from the next one on.
-        Story.after("set 0 0, take 1 2, wish 2 0 3, pass 2").is(2, "holder 1 7").is(0, "holder 2 7").then("pass 1").is(1,
-            "holder 2 7")
+        Story.after("set 0 0, take 1 2, wish 2 0 3, pass 2").is(2, "holder 1 7").is(0, "holder 2 7").then("pass 1")
+            .is(1, "holder 2 7")
             .then("pass 9").is(3, "holder 2 7").is(2, "holder 1 7");
     }
 
@@ -245,8 +245,8 @@ final class LookSentences {
         gaps.is(3, "span 1 0").is(3, "span 1 1").is(11, "span 3 0").is(1, "span 3 1");
 
         Story.on("17", "NONE if there are not so many.");
-        gaps.is(-1, "span 4 0").is(-1, "span 4 1").is(-1, "span " + Story.MOST_INT + " 0").is(-1,
-            "span " + Story.MOST_INT + " 1");
+        gaps.is(-1, "span 4 0").is(-1, "span 4 1").is(-1, "span " + Story.MOST_INT + " 0")
+            .is(-1, "span " + Story.MOST_INT + " 1");
         Story.fresh().is(-1, "span 1 0").is(-1, "span 1 1");
         Story.after("set 3 4, takeSpan 0 4 1").is(-1, "span 0 0").is(-1, "span 0 1").then("pass 1").is(-1, "span 0 0");
 
@@ -266,8 +266,8 @@ final class LookSentences {
         }
 
         Story.on("18", "- `what`: 0: the time;");
-        Story.fresh().is(0, "count 0").then("pass 1").is(1, "count 0").then("pass 99").is(100, "count 0").then("undo").is(1,
-            "count 0");
+        Story.fresh().is(0, "count 0").then("pass 1").is(1, "count 0").then("pass 99").is(100, "count 0").then("undo")
+            .is(1, "count 0");
 
         Story.on("18", "1 to 3: numbers that are free, held, in grace;");
         Story.fresh().is(32, "count 1").is(0, "count 2").is(0, "count 3").then("set 3 64").is(64, "count 1");

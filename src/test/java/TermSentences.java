@@ -158,8 +158,8 @@ final class TermSentences {
         three.then("pass 6").is(3, "number 0 1").is(2, "number 0 5").is(1, "number 0 6");
         Story noRoom = three.then("takeSpan 3 1 99, takeSpan 1 1 99, takeSpan 2 1 99, set 1 1");
         noRoom.then("giveBack 0 0 0").is(FREE, "number 0 0").is(0, "count 4").is(3, "count 9").is(1, "count 8");
-        noRoom.then("giveBack 1 2 2, giveBack 0 0 0").is(1, "number 0 1").is(1, "number 0 5").is(2, "number 0 6").is(1,
-            "count 9");
+        noRoom.then("giveBack 1 2 2, giveBack 0 0 0").is(1, "number 0 1").is(1, "number 0 5").is(2, "number 0 6")
+            .is(1, "count 9");
 
         Story.on("Wishes", "and if its holder has fewer than setting 1 numbers, the number is given on a lease for its term;");
         Story.after("take 0 9, wish 1 0 30, takeSpan 1 2 50, set 1 3, pass 4, giveBack 0 0 0").is(1, "number 0 1")
@@ -300,13 +300,13 @@ final class TermSentences {
         full.refuses(Due.ARGUMENT, "take 0 0", "take 1 1000", "takeSpan 0 65 1", "takeSpan 1 1 1000", "takeSpan 0 0 0");
         full.refuses(Due.INDEX, "wish 8 0 0", "wish 0 4 0", "wish -1 0 1", "wish 0 -1 1000").refuses(Due.ARGUMENT, "wish 0 0 0");
         full.refuses(Due.INDEX, "unwish 8 0", "unwish 0 4", "unwish -1 -1").refuses(Due.STATE, "unwish 0 0");
-        full.refuses(Due.INDEX, "renew 8 0 0", "renew 1 4 0", "renew -1 0 1", "renew 1 -1 1").refuses(Due.ARGUMENT,
-            "renew 1 0 0");
+        full.refuses(Due.INDEX, "renew 8 0 0", "renew 1 4 0", "renew -1 0 1", "renew 1 -1 1")
+            .refuses(Due.ARGUMENT, "renew 1 0 0");
         full.refuses(Due.INDEX, "giveBack 8 1 0", "giveBack 0 4 0", "giveBack 0 0 -1", "giveBack -1 3 2", "giveBack 0 4 3");
         full.refuses(Due.INDEX, "set 4 -1", "set -1 65").refuses(Due.ARGUMENT, "set 3 3");
         full.refuses(Due.INDEX, "number 4 9", "number -1 -1", "holder 8 8", "holder -1 -1", "whoAfter 4 501", "whoAfter -1 -1");
-        Story late = Story.fresh().times(101, "pass 99").refuses(Due.ARGUMENT, "pass 100", "pass 0").refuses(Due.STATE,
-            "pass 99");
+        Story late = Story.fresh().times(101, "pass 99").refuses(Due.ARGUMENT, "pass 100", "pass 0")
+            .refuses(Due.STATE, "pass 99");
         late.times(60, "append 33").refuses(Due.ARGUMENT, "append 32", "append 127").refuses(Due.STATE, "append 126");
     }
 
@@ -343,8 +343,8 @@ final class TermSentences {
             rich.then(look).endsAs(rich);
         }
         Story late = Story.fresh().times(101, "pass 99").then("set 1 64, take 0 10, takeSpan 1 31 495");
-        late.is(9999, "count 0").is(0, "whoAfter 0 14").is(-1, "whoAfter 0 15").is(-1, "whoAfter 31 500").is(1,
-            "whoAfter 31 499");
+        late.is(9999, "count 0").is(0, "whoAfter 0 14").is(-1, "whoAfter 0 15").is(-1, "whoAfter 31 500")
+            .is(1, "whoAfter 31 499");
         late.is(15, "freeIn 1").is(500, "freeIn 2").is(500, "freeIn 32").is(15, "wishedIn 2 0").is(500, "wishedIn 2 9");
     }
 }

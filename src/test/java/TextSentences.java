@@ -160,8 +160,8 @@ final class TextSentences {
 
     private static void append() {
         Story.on("10", "Appends a character to the buffer.");
-        Story.after("append 100, append 57").is(2, "firstError").then("append 59, append 116").is(4, "firstError").is(4,
-            "clearBuffer");
+        Story.after("append 100, append 57").is(2, "firstError").then("append 59, append 116").is(4, "firstError")
+            .is(4, "clearBuffer");
         Story.after("append 100, append 57, run").is(9, "count 0");
         Story.after("append 57, append 100").is(0, "firstError");
         Story.after("append 100, append 57").endsAs(typed("d9")).is(0, "count 12");
