@@ -6,10 +6,14 @@ import java.lang.reflect.Modifier;
 import java.nio.charset.StandardCharsets;
 import java.nio.file.Files;
 import java.nio.file.Path;
+import java.util.ArrayList;
+import java.util.List;
 import java.util.TreeSet;
 
-/** The public face, and those rules of LANGUAGE.md that can be looked at from here. */
+/** The public face, and those rules of LANGUAGE.md that can be looked at from here; RuleTests has the others. */
 public final class FaceTests {
+    private static final Path FILE = Path.of("src/main/java/NumberLeases.java");
+    private static final Path DOCUMENT = Path.of("../shared/DOC.md");
     private static final String I = "IndexOutOfBoundsException";
     private static final String A = "IllegalArgumentException";
     private static final String S = "IllegalStateException";
@@ -43,6 +47,7 @@ public final class FaceTests {
 
     public static void main(String[] args) throws IOException {
         membersAreThoseOfTheDocument();
+        faceIsWrittenAsInTheDocument();
         constantIsAsTold();
         nestedClassesAreFewAndStatic();
         fileHasPlainSignsOnly();
@@ -86,6 +91,32 @@ public final class FaceTests {
         Due.is("the class is public and final", open2, NumberLeases.class.getModifiers() & open2);
     }
 
+    /** The file has each line of the document's block of code, its parameters' names among it, in the same order. */
+    private static void faceIsWrittenAsInTheDocument() throws IOException {
+        String file = Files.readString(FILE).replaceAll("\\s+", " ");
+        int at = 0;
+        List<String> lines = linesOfFace();
+        for (String line : lines) {
+            boolean isCall = line.endsWith(";") && !line.contains("=");
+            int next = file.indexOf(isCall ? line.replace(";", " {") : line);
+            Due.is("the file has in its place: " + line, 1, next >= at ? 1 : 0);
+            at = Math.max(at, next);
+        }
+        Due.is("lines of the face", METHODS.length + 3, lines.size());
+    }
+
+    private static List<String> linesOfFace() throws IOException {
+        List<String> lines = new ArrayList<>();
+        boolean isFace = false;
+        for (String line : Files.readAllLines(DOCUMENT)) {
+            isFace = isFace ? !line.equals("```") : line.equals("```java");
+            if (isFace && line.trim().startsWith("public ")) {
+                lines.add(line.trim());
+            }
+        }
+        return lines;
+    }
+
     private static void constantIsAsTold() {
         Due.is("NONE", -1, NumberLeases.NONE);
         for (Field field : NumberLeases.class.getDeclaredFields()) {
@@ -108,7 +139,7 @@ public final class FaceTests {
     }
 
     private static void fileHasPlainSignsOnly() throws IOException {
-        String text = Files.readString(Path.of("src/main/java/NumberLeases.java"), StandardCharsets.ISO_8859_1);
+        String text = Files.readString(FILE, StandardCharsets.ISO_8859_1);
         for (int k = 0; k < text.length(); k++) {
             if (text.charAt(k) > 126) {
                 Due.is("sign " + k + " of the file", 126, text.charAt(k));

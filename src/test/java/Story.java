@@ -183,7 +183,7 @@ final class Story {
 
     // ---- calls
 
-    private static long make(NumberLeases x, String call) {
+    static long make(NumberLeases x, String call) {
         String[] parts = call.split(" ");
         if (parts[0].equals("type")) {
             Due.type(x, parts[1]);
